@@ -274,12 +274,7 @@ public final class SuperSteps {
         if (kind == RANK) {
             return a + b;
         }
-        boolean takesFirst = kind == GREATEST ? a > b : a < b;
-        return takesFirst ? a : b;
-    }
-
-    private static boolean isBetter(int kind, int a, int b) {
-        return kind == GREATEST ? a > b : a < b;
+        return (kind == GREATEST ? a > b : a < b) ? a : b;
     }
 
     /** THE TEXT, and the reading of it item by item. */
@@ -688,7 +683,8 @@ public final class SuperSteps {
         /** What the point sends then, NONE if nothing. */
         int workForBest(Plan plan, int p) {
             int best = mail.gistFor(p, plan.kind);
-            boolean better = mail.countFor(p) > 0 && isBetter(plan.kind, best, value[p]);
+            boolean better = mail.countFor(p) > 0 && best != value[p]
+                && together(plan.kind, best, value[p]) == best;
             if (better) {
                 value[p] = best;
             }

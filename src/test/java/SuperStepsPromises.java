@@ -92,6 +92,7 @@ public final class SuperStepsPromises {
         due("new lay", x.lay(), NO);
         due("new undo", x.undo(), NO);
         due("new sum", x.sum(0, 0), NONE);
+        firstGraph();
         SuperSteps y = laid(FIRST);
         for (int i = 0; i < 11; i++) {
             due("first text count " + i, y.count(i), x.count(i));
@@ -99,6 +100,29 @@ public final class SuperStepsPromises {
         due("first text rest", y.rest(0, 0), 6);
         due("first text rest", y.rest(0, 1), 9);
         due("first text rest", y.rest(0, 2), 29);
+    }
+
+    /** Each link of the first graph by the letter that it carries, with a value told to its point alone. */
+    private static void firstGraph() {
+        int[][] links = {{0, 1, 4}, {1, 2, 3}, {0, 2, 9}, {2, 3, 1}, {3, 4, 2}, {4, 1, 1}};
+        for (int[] link : links) {
+            SuperSteps x = new SuperSteps();
+            x.step(20);
+            x.value(link[0], 500);
+            x.step(1);
+            letters("link of the first graph", x, link[1], 500 + link[2], link[0] % 2);
+        }
+        SuperSteps x = new SuperSteps();
+        x.step(20);
+        x.value(0, 0);
+        x.step(1);
+        due("a difference of 1 sends none", x.sum(0, 5), NONE);
+        x.step(1);
+        due("nor do like loads", x.sum(0, 5), NONE);
+        x.value(0, 0);
+        x.value(2, 7);
+        x.step(1);
+        due("a difference of 2 sends one", x.sum(0, 5), 0);
     }
 
     private static void write() {
@@ -177,6 +201,7 @@ public final class SuperStepsPromises {
         points("laid plainly", x, 1, 0, 1, 0, 1);
         points("laid plainly", x, 4, 0, 0, 0, 1);
         points("laid plainly", x, 5, 0, 0, 0, 0);
+        points("laid plainly", x, 6, 0, 0, 0, 0);
         due("worker load at first", x.worker(0, 1), 0);
         due("no undo behind laid", x.undo(), NO);
         due("no sum behind laid", x.sum(0, 0), NONE);
@@ -195,6 +220,22 @@ public final class SuperStepsPromises {
         tell(x, "n3;v0,5;v2,7;l0,1,1;k2,2;");
         due("lay by least", x.lay(), 3);
         values("by least", x, 5, 10, 7);
+        tell(x, "n4;l0,1,1;w2,1;v0,9;v2,9;");
+        x.lay();
+        x.move(2, 1);
+        x.step(1);
+        due("sent elsewhere", x.count(8), 1);
+        x.lay();
+        due("none sent elsewhere since laid", x.count(8), 0);
+        tell(x, "n4;l0,1,1;v0,9;v2,9;v0,7;");
+        x.lay();
+        values("of several values the last", x, 7, 10, 9, 30);
+        x.move(2, 1);
+        x.step(1);
+        due("none sent elsewhere without w", x.sum(0, 5), NONE);
+        tell(x, "l0,1,1;");
+        x.lay();
+        values("values told ahead are gone", x, 0, 10, 20, 30);
     }
 
     private static void greatest() {
@@ -271,6 +312,11 @@ public final class SuperStepsPromises {
         x.step(1);
         values("letters wake", x, 15, 439, 439);
         due("woken ones send no more", x.count(6), 0);
+        SuperSteps one = laid("n2;l0,1,1;v0,500;k3,1;");
+        one.step(1);
+        one.value(1, 700);
+        one.step(1);
+        due("fresh with one letter", one.point(1, 0), 440);
         SuperSteps z = laid("n2;l0,1,1;v0,500;k3,0;");
         due("none sends", z.step(20), 1);
         values("none sends", z, 500, 10);
@@ -419,12 +465,11 @@ public final class SuperStepsPromises {
         due("four at most", x.count(10), 4);
         x.undo();
         due("a new one behind an undone one", x.value(0, 77), 5);
-        due("undo", x.undo(), 3);
-        due("undo", x.undo(), 2);
-        due("undo", x.undo(), 1);
-        due("undo", x.undo(), 0);
+        for (int left = 3; left >= 0; left--) {
+            due("undo", x.undo(), left);
+            due("value", x.point(0, 0), 2 + left);
+        }
         due("undo", x.undo(), NO);
-        due("value", x.point(0, 0), 2);
         x.value(0, 9);
         x.value(9, 9);
         x.move(0, 0);
@@ -556,6 +601,34 @@ public final class SuperStepsPromises {
         due("the heaviest below", z.sum(0, 5), 1);
         due("to the lowest worker", z.point(1, 1), 0);
         due("cross as it was then", z.sum(1, 3), 5);
+        SuperSteps f = laid("n4;l1,0,1;l1,2,1;l3,0,1;v0,0;v1,99;v2,0;v3,99;w2,1;");
+        f.step(2);
+        due("point 0", f.sum(0, 5), 0);
+        due("point 0", f.point(0, 1), 1);
+        SuperSteps g = laid("n6;l0,1,1;w3,1;");
+        g.step(2);
+        g.value(0, 5);
+        g.value(3, 5);
+        g.value(1, 5);
+        g.value(4, 5);
+        g.step(1);
+        due("of several greatest the lowest", g.sum(0, 5), 0);
+        due("to the least", g.point(0, 1), 2);
+        SuperSteps h = laid("n4;l0,1,1;w4,1;");
+        h.step(2);
+        h.move(2, 3);
+        h.value(2, 1);
+        h.value(3, 1);
+        h.step(1);
+        due("a load of 1", h.sum(0, 5), 2);
+        due("of several least the lowest", h.point(2, 1), 0);
+        SuperSteps t = laid("n12;l0,1,1;w2,1;");
+        t.step(2);
+        t.value(9, 1);
+        t.value(11, 1);
+        t.value(9, 1);
+        t.step(1);
+        due("among twelve", t.sum(0, 5), 9);
     }
 
     private static void sum() {
