@@ -9,9 +9,13 @@ import java.util.TreeMap;
 import java.util.regex.Matcher;
 import java.util.regex.Pattern;
 
-/** Long runs of calls (from fixed seeds), every answer against a model written from the document another way. */
+/**
+ * Runs of calls (from fixed seeds), every answer against a model written from the document another way.
+ * Each object is asked just as many calls as the document speaks of.
+ */
 public final class SuperStepsModel {
     private static final int BAD = -1, NO = -2, FULL = -3, NONE = -4;
+    private static final int MOST_CALLS = 512, MOST_TOLD = 203, LOOKS_EACH = 14;
     private static int wrong = 0;
     private static long asked = 0;
 
@@ -451,14 +455,20 @@ public final class SuperStepsModel {
         final Random random;
         final long seed;
         final StringBuilder story = new StringBuilder();
+        int calls = 0;
 
         Run(long seed) {
             this.seed = seed;
             random = new Random(seed);
         }
 
+        int callsLeft() {
+            return MOST_CALLS - calls;
+        }
+
         void same(String call, int got, int want) {
             asked++;
+            calls++;
             if (got != want) {
                 wrong++;
                 if (wrong < 20) {
@@ -497,7 +507,7 @@ public final class SuperStepsModel {
             if (below(4) == 0) {
                 spoil(t);
             }
-            return t.toString();
+            return t.substring(0, Math.min(200, t.length()));
         }
 
         void spoil(StringBuilder t) {
@@ -555,50 +565,66 @@ public final class SuperStepsModel {
         }
 
         void look() {
-            for (int p = -1; p <= 12; p++) {
-                for (int what = -1; what < 8; what++) {
+            int p = near(model.world.g.n);
+            switch (below(7)) {
+                case 0: case 1: {
+                    int what = near(7);
                     same("point(" + p + ", " + what + ")", real.point(p, what), model.point(p, what));
+                    break;
                 }
-                for (int k = -1; k < 4; k++) {
-                    for (int what = -1; what < 3; what++) {
-                        same("letter(" + p + ", " + k + ", " + what + ")", real.letter(p, k, what), model.letter(p, k, what));
-                    }
+                case 2: {
+                    int k = near(3), what = near(2);
+                    same("letter(" + p + ", " + k + ", " + what + ")", real.letter(p, k, what), model.letter(p, k, what));
+                    break;
                 }
-            }
-            for (int w = -1; w <= 4; w++) {
-                for (int what = -1; what < 4; what++) {
+                case 3: {
+                    int w = near(model.world.g.m), what = near(3);
                     same("worker(" + w + ", " + what + ")", real.worker(w, what), model.worker(w, what));
+                    break;
                 }
-            }
-            for (int k = -1; k <= 10; k++) {
-                for (int what = -1; what < 7; what++) {
+                case 4: {
+                    int k = below(2) == 0 ? 0 : near(10), what = near(6);
                     same("sum(" + k + ", " + what + ")", real.sum(k, what), model.sum(k, what));
+                    break;
                 }
-            }
-            for (int other = -1; other < 3; other++) {
-                for (int what = -1; what < 4; what++) {
+                case 5: {
+                    int other = near(2), what = near(3);
                     same("rest(" + other + ", " + what + ")", real.rest(other, what), model.rest(other, what));
+                    break;
+                }
+                default: {
+                    int what = near(12);
+                    same("count(" + what + ")", real.count(what), model.count(what));
                 }
             }
-            for (int what = -1; what < 13; what++) {
-                same("count(" + what + ")", real.count(what), model.count(what));
+        }
+
+        /** The first graph stays in every fifth run; in others a text is told, and now and then another one behind it. */
+        void go() {
+            boolean isTold = seed % 5 != 0;
+            if (isTold) {
+                tell();
+            }
+            while (callsLeft() > LOOKS_EACH) {
+                if (isTold && below(16) == 0 && callsLeft() > MOST_TOLD) {
+                    tell();
+                }
+                change();
+                for (int i = 0; i < LOOKS_EACH && callsLeft() > 0; i++) {
+                    look();
+                }
             }
         }
     }
 
     public static void main(String[] args) {
-        int runs = args.length > 0 ? Integer.parseInt(args[0]) : 400;
+        int runs = args.length > 0 ? Integer.parseInt(args[0]) : 8000;
         for (int seed = 1; seed <= runs; seed++) {
             Run run = new Run(seed);
-            for (int text = 0; text < 2; text++) {
-                if (seed % 5 != 0) {
-                    run.tell();
-                }
-                for (int i = 0; i < 12; i++) {
-                    run.look();
-                    run.change();
-                }
-                run.look();
+            run.go();
+            if (run.callsLeft() < 0) {
+                wrong++;
+                System.out.println("seed " + seed + ": the test asks more than " + MOST_CALLS + " calls of one object");
             }
         }
         System.out.println(asked + " answers asked, " + wrong + " not as due");

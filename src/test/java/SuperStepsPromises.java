@@ -698,7 +698,24 @@ public final class SuperStepsPromises {
         counts("another", y, 3, 1, 3, 3, 0, 3, 0, 0, 0, 0, 0, 20);
     }
 
+    /** The example of README.md, call by call. */
+    private static void example() {
+        SuperSteps x = new SuperSteps();
+        for (char c : "n3;l0,1,4;l1,2,3;k1,0;".toCharArray()) {
+            x.write(c);
+        }
+        due("README: fault", x.fault(), NONE);
+        due("README: lay", x.lay(), 3);
+        due("README: rest", x.rest(0, 0), 3);
+        due("README: step", x.step(20), 3);
+        due("README: point", x.point(2, 0), 7);
+        due("README: sum", x.sum(0, 0), 1);
+        due("README: undo", x.undo(), 0);
+        due("README: point", x.point(2, 0), 999);
+    }
+
     public static void main(String[] args) {
+        example();
         newObject();
         write();
         wipe();
